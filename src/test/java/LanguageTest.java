@@ -4,7 +4,7 @@ import java.nio.file.Path;
 import java.util.regex.Matcher;
 import java.util.regex.Pattern;
 
-/** What a reader of the text alone can hold of LANGUAGE.md: words that the program does without, methods that are short. */
+/** What the text alone shows of LANGUAGE.md: words that the program does without, methods that are short. */
 public final class LanguageTest {
     private static final String[] WITHOUT = {"\\bthrow", "\\btry\\b", "\\bcatch\\b", "\\bfinally\\b", "\\bsynchronized\\b",
         "\\bassert\\b", "\\bimport\\b", "\\bpackage\\b", "\\bprotected\\b", "\\brecord\\b", "\\bvar\\b", "\\bnative\\b",
@@ -26,7 +26,8 @@ public final class LanguageTest {
     }
 
     private static void methodsAreShort(Due due, String text) {
-        Matcher method = Pattern.compile("(?ms)^( +)(?!return|if|for|else|switch)\\w[^;={}]*\\([^;{}]*\\) \\{$.*?^\\1\\}$").matcher(text);
+        String head = "^( +)(?!return|if|for|else|switch)\\w[^;={}]*\\([^;{}]*\\) \\{$";
+        Matcher method = Pattern.compile("(?ms)" + head + ".*?^\\1\\}$").matcher(text);
         int methods = 0;
         while (method.find()) {
             methods++;

@@ -67,7 +67,9 @@ public final class ModelTest {
         int spots = 1 + random.nextInt(4);
         for (int s = 0; s < spots; s++) text.append(';').append(random.nextInt(bright ? 5 : 10));
         int lamps = 1 + random.nextInt(4);
-        for (int k = 0; k < lamps; k++) text.append(',').append("lmf".charAt(random.nextInt(3))).append(random.nextInt(spots));
+        for (int k = 0; k < lamps; k++) {
+            text.append(',').append("lmf".charAt(random.nextInt(3))).append(random.nextInt(spots));
+        }
         if (random.nextInt(4) == 0) spoil(text);
         int sheet = random.nextInt(4);
         int lane = random.nextInt(3);

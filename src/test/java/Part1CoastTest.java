@@ -42,6 +42,7 @@ public final class Part1CoastTest {
         textFault("x", 0);
         textFault("O590030;1,l0", 0);
         textFault("o59003", 6);
+        textFault("o5;1,l0", 2);
         textFault("o59003x;1,l0", 6);
         textFault("o59003:;1,l0", 6);
         textFault("o/90030;1,l0", 1);
@@ -50,12 +51,16 @@ public final class Part1CoastTest {
         textFault("o5900301;1,l0", 7);
         textFault("o590030;", 8);
         textFault("o590030;a,l0", 8);
+        textFault("o590030;:,l0", 8);
+        textFault("o590030;/,l0", 8);
+        textFault("o590030;,l0", 8);
         textFault("o590030;;1,l0", 8);
         textFault("o590030;1", 9);
         textFault("o590030;12,l0", 9);
         textFault("o590030;1,", 10);
         textFault("o590030;1,k0", 10);
         textFault("o590030;1,L0", 10);
+        textFault("o590030;1,0", 10);
         textFault("o590030;1,l", 11);
         textFault("o590030;1,l1", 11);
         textFault("o590030;1;2,l2", 13);
@@ -143,9 +148,10 @@ public final class Part1CoastTest {
         OldLamps x = Coasts.of(TEXT);
         x.move(0, 1, 2);
         x.reading(0, 0, 4);
-        x.cloud(2, 7);
+        for (int day = 0; day < 4; day++) x.cloud(day, 7);
         x.age(3);
         x.tell(0);
+        x.odds(0, 0, 0, 0);
         Coasts.fill(x, 0, 2, 77);
         due.is("another text", Coasts.read(x, "o111111;0,m0"), 1);
         due.is("lamps", x.many(0), 1);

@@ -11,6 +11,7 @@ public final class Part2WatchesTest {
         lightFalls();
         spotsAreLight();
         movedLampsTakeTheirLightAlong();
+        fourLampsAtFourSpots();
         spotsAreDark();
         refusals();
         due.end();
@@ -105,6 +106,22 @@ public final class Part2WatchesTest {
         due.is("is no more at its old spot", x.light(0, 6), 9);
         due.is("what falls on it there", x.falls(0, 6), 0);
         due.is("and so it gives a day later", x.gives(0, 12), 0);
+    }
+
+    private static void fourLampsAtFourSpots() {
+        OldLamps x = Coasts.of("o987654;0;1;2;3,l0,l1,l2,f3");
+        int[] gives = {9, 8, 7, 14};
+        int[] light = {18, 16, 14, 20};
+        for (int number = 0; number < 4; number++) {
+            due.is("where", x.where(number, 23), number);
+            due.is("gives", x.gives(number, 6), gives[number]);
+            due.is("falls", x.falls(number, 6), 9 - number);
+            due.is("light", x.light(number, 6), light[number]);
+            due.is("dark", x.dark(number, 0, 5 - number), 5);
+        }
+        x.move(3, 6, 0);
+        due.is("spot 0 has two", x.light(0, 6), 32);
+        due.is("spot 3 has none", x.light(3, 6), 6);
     }
 
     private static void spotsAreDark() {

@@ -1,4 +1,4 @@
-/** Promises 15 to 18: the one move for the most light, for the least dark, moves that are told, what a lamp is worth. */
+/** Promises 15 to 18: the one move for the most light, for the least dark, moves that are told, worths. */
 public final class Part3MovesTest {
     private static final Due due = new Due("Part3MovesTest");
 
@@ -36,6 +36,9 @@ public final class Part3MovesTest {
         set(x, 1, 6, 1011, 10);
         x = Coasts.of("o123456;0;9,l0");
         set(x, 1, 23, 181, 6);
+        x = Coasts.of("o900000;0;0;0;9,l0,l1,l2,f1");
+        set(x, 3, 6, 3013, 20);
+        set(x, 0, 6, 3000, 38);
     }
 
     private static void setIsBehindAllTold() {
@@ -85,6 +88,8 @@ public final class Part3MovesTest {
         for (int i = 1; i < 8; i++) x.move(0, 0, 1);
         show(x, 1, 1, 1011, 1);
         due.is("no move has come of it", x.many(2), 8);
+        x = Coasts.of("o999999;0;0;0;9,l0");
+        show(x, 3, 1, 63, 18);
         x = Coasts.of("o999999;9;0;0,l0");
         x.age(12);
         x.move(0, 12, 0);
@@ -119,6 +124,9 @@ public final class Part3MovesTest {
         }
         Coasts.fill(x, 1, 2, cells);
         due.is("eight of them", x.moves(1, 6, 1, 2, 0, 8), 19);
+        x.put(1, 23, 0);
+        due.is("the eighth of them", x.moves(1, 6, 1, 2, 0, 8), 9);
+        due.is("then none", x.moves(1, 6, 1, 2, 0, 0), 0);
         due.is("nine are too many", x.moves(1, 6, 1, 2, 0, 9), OldLamps.OUTSIDE);
     }
 
@@ -177,6 +185,9 @@ public final class Part3MovesTest {
         x = Coasts.of("o900000;0;9,l0");
         x.move(0, 6, 1);
         due.is("of all spots", x.worth(0), 9);
+        x = Coasts.of("o900000;0;0;0;0,l0,l1,m2,f3");
+        due.is("of four at four spots", x.worth(1), 27);
+        due.is("of the feast one of them", x.worth(3), 60);
         x = Coasts.of("o900000;9,f0");
         due.is("of nothing", x.worth(0), 0);
         due.is("the kind stays", x.ofLamp(0, 0), 2);

@@ -154,6 +154,8 @@ public final class Part4ReadingsTest {
         odds(x, 0, 0, 8, 1, 2);
         odds(x, 0, 2, 1, 0, 1);
         odds(x, 0, 23, 999, 0, 1);
+        x.age(12);
+        odds(x, 0, 6, 9, 0, 1);
         x = Coasts.of("o900000;0,l0,l0");
         odds(x, 0, 18, 63, 1, 16);
         odds(x, 0, 18, 1, 15, 16);

@@ -289,7 +289,7 @@ public final class Part5SheetsTest {
         due.is("moves()", x.fault(), 0);
     }
 
-    /** The answer is of a call ahead: it came to no fault, so that there is none; then one is made for the next call. */
+    /** The call that answered came to no fault, so that there is none; then one is made, for the next such call. */
     private static void faultGoes(OldLamps x, String call, long answer) {
         due.is("fault() behind " + call + " that answered " + answer, x.fault(), 0);
         x.put(0, 3, 0);
