@@ -21,7 +21,7 @@ public final class OldLamps {
     private final Entries readings = new Entries();
     private final Watches now = new Watches();
     private final Watches then = new Watches();
-    private final Search search = new Search(ground, told, now, then);
+    private final Search search = new Search();
     private final Sheet[] sheets = new Sheet[SHEETS];
     private int traced = 0;
     private int latestFault = 0;
@@ -139,14 +139,14 @@ public final class OldLamps {
     public int set(int spot, int watch, int what) {
         if (!ground.hasSpot(spot)) return UNKNOWN;
         if (!isWatch(watch) || !isWithin(what, 0, 1)) return OUTSIDE;
-        search.run(new MostLight(spot, watch));
+        search.run(ground, told, new MostLight(spot, watch));
         return what == 0 ? search.bestMove : search.bestScore;
     }
 
     public int show(int spot, int v, int what) {
         if (!ground.hasSpot(spot)) return UNKNOWN;
         if (!isWithin(v, 0, MOST_ASKED) || !isWithin(what, 0, 1)) return OUTSIDE;
-        search.run(new LeastDark(spot, v));
+        search.run(ground, told, new LeastDark(spot, v));
         return what == 0 ? search.bestMove : -search.bestScore;
     }
 
@@ -767,33 +767,23 @@ public final class OldLamps {
 
     /** Tries each one move more behind the told ones, in the order in which of several the first one counts. */
     static final class Search {
-        private final Ground ground;
-        private final Entries told;
-        private final Watches now;
-        private final Watches then;
+        private final Watches now = new Watches();
+        private final Watches then = new Watches();
         int bestMove = NONE;
         int bestScore = 0;
 
-        Search(Ground ground, Entries told, Watches now, Watches then) {
-            this.ground = ground;
-            this.told = told;
-            this.now = now;
-            this.then = then;
-        }
-
-        void run(Aim aim) {
+        void run(Ground ground, Entries told, Aim aim) {
             now.reckon(ground, told);
             bestMove = NONE;
             bestScore = aim.score(now);
             for (int lamp = 0; lamp < ground.lamps; lamp++) {
                 for (int watch = 0; watch <= aim.lastWatch(); watch++) {
-                    tryAllSpots(aim, lamp, watch);
+                    tryAllSpots(ground, aim, lamp, watch, told.nextWatch(lamp, watch));
                 }
             }
         }
 
-        private void tryAllSpots(Aim aim, int lamp, int watch) {
-            int until = told.nextWatch(lamp, watch);
+        private void tryAllSpots(Ground ground, Aim aim, int lamp, int watch, int until) {
             int place = now.places[Watches.at(watch, lamp)];
             for (int spot = 0; spot < ground.spots; spot++) {
                 // Where it stands already it stands until its next move: nothing would change.
